@@ -25,7 +25,7 @@ public final class CaseWheel {
     private final Letters docket = new Letters(WRITING_ROOM);
     private final Letters[] slips = new Letters[SLIPS];
     private final boolean[] isThere = new boolean[SLIPS];
-    private final Reader reader = new Reader(text);
+    private final TextReader reader = new TextReader(text);
     // As the texts told it, without what calls did since: a later text goes on from here.
     private final State asTold = new State();
     private final State asRead = new State();
@@ -642,7 +642,7 @@ public final class CaseWheel {
     }
 
     /** Reads a text token by token, to its first fault. */
-    private static final class Reader {
+    private static final class TextReader {
         static final int END = 0, WORD = 1, DIGITS = 2, OTHER = 3;
 
         final Letters text;
@@ -651,7 +651,7 @@ public final class CaseWheel {
         int end;
         int clauses;
 
-        Reader(Letters text) {
+        TextReader(Letters text) {
             this.text = text;
         }
 

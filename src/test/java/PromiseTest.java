@@ -195,8 +195,15 @@ public final class PromiseTest {
         due("a longer word", faultOf("wheels"), 0);
         due("a shorter word", faultOf("wheel;judg 1"), 6);
         due("a number first", faultOf("1 judge"), 0);
+        due("another first letter", faultOf("xheel"), 0);
+        due("another last letter", faultOf("judgy 1"), 0);
         due("the first of two faults", faultOf("judge 0 f"), 6);
-        due("fault() twice", writeText(new CaseWheel(), "judge 1;").fault(), 8);
+        CaseWheel x = writeText(new CaseWheel(), "judge 12;wheels");
+        x.erase();
+        due("nothing erased is read on", writeText(x, "judge 1").fault(), NONE);
+        due("fault() again", x.fault(), NONE);
+        x.erase();
+        due("nothing erased is read on in a word", writeText(x, "judge 12;wheel").fault(), 6);
     }
 
     private static void faultOfNumbers() {
@@ -213,6 +220,9 @@ public final class PromiseTest {
         due("party 10", faultOf("judge 1;bar 0 10"), 14);
         due("party 000", faultOf("judge 1;bar 0 000"), 14);
         due("party missing", faultOf("judge 1;bar 0"), 13);
+        due("judge and party missing", faultOf("judge 1;bar"), 11);
+        due("judge and party missing, clause behind", faultOf("judge 1;bar;wheel"), 11);
+        due("judge missing", faultOf("judge 1;bar a 1"), 12);
         due("party missing, with blanks", faultOf("judge 1;bar 0  "), 15);
         due("party missing, clause behind", faultOf("judge 1;bar 0;wheel"), 13);
         due("judge 1 not told ahead", faultOf("judge 1;bar 1 0;judge 1"), 12);
@@ -264,6 +274,9 @@ public final class PromiseTest {
         due("24 clauses done", writeText(new CaseWheel(), many).wheel(), 24);
         due("a 25th clause", faultOf(many + ";wheel"), 143);
         due("200 letters", faultOf("wheel" + " ".repeat(195)), NONE);
+        due("200 letters, a digit last", faultOf("judge" + " ".repeat(194) + "1"), NONE);
+        due("200 letters, a word last", faultOf(" ".repeat(195) + "wheel"), NONE);
+        due("200 letters, a ; last", faultOf(" ".repeat(194) + "wheel;"), 200);
     }
 
     private static void wheelDoesClauses() {
@@ -577,6 +590,7 @@ public final class PromiseTest {
         writeText(x, "whe");
         withSlip(x, 1, "both");
         x.seal(9);
+        for (int i = 0; i < 6; i++) x.assign(4, 9);
         due("back(0) behind seal()", x.back(0), 3);
         due("as kept", look(x), first);
         due("nothing can be undone", x.undo(), NOT);
@@ -676,6 +690,9 @@ public final class PromiseTest {
         dueForAll("odds(0, 0, 0, _)", part -> x.odds(0, 0, 0, part), OUTSIDE, -1, 2, LEAST, MOST);
         due("UNKNOWN first", x.odds(3, 5, 10, 2), UNKNOWN);
         x.away(2, 1);
+        CaseWheel y = told(TWO);
+        due("1 by 2, above", y.odds(1, 0, 0, 0), 1);
+        due("1 by 2, below", y.odds(1, 0, 0, 1), 2);
         due("all away or barred", x.odds(2, 0, 6, 0), NOT);
         due("OUTSIDE first", x.odds(2, 0, 6, 2), OUTSIDE);
         due("nothing turned", x.told(2), 0);
@@ -832,6 +849,9 @@ public final class PromiseTest {
         due("left", slipOf(x, 1), "ade");
         due("all", x.cut(1, 0, 3), 0);
         due("it is there still", x.cut(1, 0, 0), 0);
+        withSlip(x, 1, "abcde".repeat(8));
+        due("within a full one", x.cut(1, 5, 35), 10);
+        due("left", slipOf(x, 1), "abcdeabcde");
     }
 
     private static void join() {
@@ -893,6 +913,9 @@ public final class PromiseTest {
         withSlip(x, 2, "aab");
         withSlip(x, 1, "aaab");
         due("it overlaps itself", x.find(2, 2), 1);
+        withSlip(x, 2, "ab");
+        x.cut(1, 3, 4);
+        due("not in what was cut", x.find(2, 2), NONE);
         dueForAll("find(_, 0)", s -> x.find(s, 0), UNKNOWN, -1, 3, LEAST, MOST);
         dueForAll("find(0, _)", what -> x.find(0, what), OUTSIDE, -1, 4, LEAST, MOST);
         due("UNKNOWN first", x.find(3, 4), UNKNOWN);
@@ -917,7 +940,7 @@ public final class PromiseTest {
         dueForAll("named", x::named, UNKNOWN, -1, 3, LEAST, MOST);
         String[] rules = {"plain", "versed", "owing", "both"};
         for (int i = 0; i < 4; i++) due(rules[i], withSlip(x, 1, rules[i]).named(1), i);
-        for (String n : new String[] {"", "plai", "plains", "bot", "bote", "0", "both."}) {
+        for (String n : new String[] {"", "plai", "plains", "slain", "bot", "bote", "moth", "0", "both."}) {
             due("named of " + n, withSlip(x, 1, n).named(1), NONE);
         }
     }
