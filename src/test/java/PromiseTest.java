@@ -1,23 +1,5 @@
-import java.util.function.IntUnaryOperator;
-
-/**
- * The promises of ../shared/DOC.md one by one: ordinary calls, the edges that it names, wrong arguments.
- * The turns of seed 1, halved, are 135184, 33817344, 1323717730, 153799847, 1199344616, 372747752, 316217741,
- * 217878105: what is due for drawn judges is worked out from these by hand.
- */
-public final class PromiseTest {
-    private static final int NONE = -1, UNKNOWN = -2, OUTSIDE = -3, NOT = -4, FULL = -5;
-    private static final int NULL = -11, INDEX = -12, ROOM = -13, NUMBER = -14;
-    private static final int LEAST = Integer.MIN_VALUE, MOST = Integer.MAX_VALUE;
-    // Weights 3, 5, 2: seed 1 draws 4, 4, 0, 7, 6, 2, 1, 5 of 10, so judges 1, 1, 0, 1, 1, 0, 0, 1.
-    private static final String THREE = "judge 3 ab;judge 5;judge 2 cde";
-    // Weights 1, 1: seed 1 draws 0, 0, 0, 1, 0, 0, 1, 1 of 2, and these are the judges.
-    private static final String TWO = "judge 1;judge 1";
-
-    private static int promise;
-    private static int passed;
-    private static int wrong;
-
+/** The promises of ../shared/DOC.md one by one: ordinary calls, the edges that it names, wrong arguments. */
+public final class PromiseTest extends Wheels {
     public static void main(String[] args) {
         newObject();
         write();
@@ -56,91 +38,13 @@ public final class PromiseTest {
         named();
         drop();
         told();
-        System.out.println(passed + " answers as due, " + wrong + " not");
-        if (wrong != 0) System.exit(1);
-    }
-
-    // ---- helpers
-
-    private static void due(String what, Object got, Object want) {
-        if (got.equals(want)) {
-            passed++;
-        } else {
-            wrong++;
-            System.out.println("promise " + promise + ": " + what + " answered " + got + ", due is " + want);
-        }
-    }
-
-    /** The same answer is due for each of these arguments. */
-    private static void dueForAll(String what, IntUnaryOperator call, int want, int... arguments) {
-        for (int argument : arguments) due(what + " of " + argument, call.applyAsInt(argument), want);
-    }
-
-    private static CaseWheel writeText(CaseWheel x, String text) {
-        for (char c : text.toCharArray()) x.write(c);
-        return x;
-    }
-
-    private static CaseWheel told(String text) {
-        CaseWheel x = writeText(new CaseWheel(), text);
-        due("fault() of " + text, x.fault(), NONE);
-        x.wheel();
-        return x;
-    }
-
-    private static int faultOf(String text) {
-        return writeText(new CaseWheel(), text).fault();
-    }
-
-    private static CaseWheel withSlip(CaseWheel x, int slip, String letters) {
-        x.slip(slip);
-        for (int i = 0; i < letters.length(); i++) x.insert(slip, i, letters.charAt(i));
-        return x;
-    }
-
-    private static String slipOf(CaseWheel x, int slip) {
-        StringBuilder s = new StringBuilder();
-        for (int k = 0; k <= 40 && x.letter(slip, k) >= 0; k++) s.append((char) x.letter(slip, k));
-        return s.toString();
-    }
-
-    private static String docketOf(CaseWheel x) {
-        StringBuilder s = new StringBuilder();
-        for (int k = 0; k < 200 && x.writing(k) >= 0; k++) s.append((char) x.writing(k));
-        return s.toString();
-    }
-
-    private static String sealOf(CaseWheel x, int seed) {
-        StringBuilder s = new StringBuilder();
-        for (int k = 0; k < 8; k++) s.append((char) x.sealOf(seed, k));
-        return s.toString();
-    }
-
-    /** All that a caller can see but the text and slips, in one row. */
-    private static String look(CaseWheel x) {
-        StringBuilder s = new StringBuilder(docketOf(x));
-        for (int what : new int[] {0, 1, 2, 3, 5, 9}) s.append(' ').append(x.told(what));
-        for (int judge = 0; judge < x.told(0); judge++) {
-            for (int what = 0; what < 6; what++) s.append(' ').append(x.judge(judge, what));
-        }
-        for (int party = 0; party < 10; party++) s.append(' ').append(x.next(0, party));
-        return s.toString();
-    }
-
-    private static String debts(CaseWheel x) {
-        StringBuilder s = new StringBuilder();
-        for (int judge = 0; judge < x.told(0); judge++) s.append(x.judge(judge, 4) - 100).append(' ');
-        return s.toString().trim();
-    }
-
-    private static void assignAll(CaseWheel x, int cases, int party) {
-        for (int i = 0; i < cases; i++) x.assign(i % 5, party);
+        end();
     }
 
     // ---- what is told
 
     private static void newObject() {
-        promise = 1;
+        about = "promise 1";
         CaseWheel x = new CaseWheel();
         int[] due = {0, 0, 0, 0, 0, 0, 0, 0, 0, 1};
         for (int what = 0; what < 10; what++) due("told(" + what + ")", x.told(what), due[what]);
@@ -154,7 +58,7 @@ public final class PromiseTest {
     }
 
     private static void write() {
-        promise = 2;
+        about = "promise 2";
         CaseWheel x = new CaseWheel();
         dueForAll("write", x::write, OUTSIDE, -1, 256, LEAST, MOST);
         due("told(7) behind refused letters", x.told(7), 0);
@@ -167,7 +71,7 @@ public final class PromiseTest {
     }
 
     private static void erase() {
-        promise = 3;
+        about = "promise 3";
         CaseWheel x = told(TWO);
         due("erase() of nothing", x.erase(), 0);
         writeText(x, "judge 7");
@@ -179,7 +83,7 @@ public final class PromiseTest {
     }
 
     private static void faultOfTokens() {
-        promise = 4;
+        about = "promise 4";
         due("empty", faultOf(""), 0);
         due("blanks", faultOf("   "), 3);
         due("wheel", faultOf("wheel"), NONE);
@@ -280,7 +184,7 @@ public final class PromiseTest {
     }
 
     private static void wheelDoesClauses() {
-        promise = 5;
+        about = "promise 5";
         CaseWheel x = new CaseWheel();
         due("wheel() of an empty text", x.wheel(), NOT);
         writeText(x, "judge 4 ac;judge 2;bar 0 3;bar 0 9;bar 0 3;away 1;away 1;rule owing;rule versed");
@@ -347,7 +251,7 @@ public final class PromiseTest {
     }
 
     private static void judge() {
-        promise = 6;
+        about = "promise 6";
         CaseWheel x = told(THREE + ";bar 2 0;away 2");
         int[] due = {2, 4 + 8 + 16, 1, 1, 100, 0};
         for (int what = 0; what < 6; what++) due("judge(2, " + what + ")", x.judge(2, what), due[what]);
@@ -362,7 +266,7 @@ public final class PromiseTest {
     }
 
     private static void caseOf() {
-        promise = 7;
+        about = "promise 7";
         CaseWheel x = told(THREE);
         due("caseOf(0, 0) of none", x.caseOf(0, 0), UNKNOWN);
         x.assign(4, 9);
@@ -380,7 +284,7 @@ public final class PromiseTest {
     // ---- what is done
 
     private static void seal() {
-        promise = 8;
+        about = "promise 8";
         CaseWheel x = told(TWO + ";bar 1 5");
         x.away(1, 1);
         assignAll(x, 3, 0);
@@ -407,7 +311,7 @@ public final class PromiseTest {
     }
 
     private static void assign() {
-        promise = 9;
+        about = "promise 9";
         due("no judges", new CaseWheel().assign(0, 0), NOT);
         CaseWheel x = told(THREE + ";bar 0 7;bar 1 7");
         dueForAll("assign(_, 0)", s -> x.assign(s, 0), OUTSIDE, -1, 5, LEAST, MOST);
@@ -485,7 +389,7 @@ public final class PromiseTest {
     }
 
     private static void refuse() {
-        promise = 10;
+        about = "promise 10";
         CaseWheel x = told(TWO);
         due("no case", x.refuse(0), UNKNOWN);
         x.assign(3, 4);
@@ -518,7 +422,7 @@ public final class PromiseTest {
     }
 
     private static void away() {
-        promise = 11;
+        about = "promise 11";
         CaseWheel x = told(TWO);
         dueForAll("away(_, 1)", j -> x.away(j, 1), UNKNOWN, -1, 2, LEAST, MOST);
         dueForAll("away(0, _)", is -> x.away(0, is), OUTSIDE, -1, 2, LEAST, MOST);
@@ -535,7 +439,7 @@ public final class PromiseTest {
     }
 
     private static void undo() {
-        promise = 12;
+        about = "promise 12";
         CaseWheel x = told(TWO);
         String[] looks = new String[12];
         looks[0] = look(x);
@@ -569,7 +473,7 @@ public final class PromiseTest {
     }
 
     private static void keepAndBack() {
-        promise = 13;
+        about = "promise 13";
         CaseWheel x = told(TWO);
         dueForAll("keep", x::keep, UNKNOWN, -1, 2, LEAST, MOST);
         x.seal(5);
@@ -579,7 +483,7 @@ public final class PromiseTest {
         String first = look(x);
         due("keep(0)", x.keep(0), 3);
         due("keep() leaves what can be undone", x.told(6), 5);
-        promise = 14;
+        about = "promise 14";
         dueForAll("back", x::back, UNKNOWN, -1, 2, LEAST, MOST);
         due("back(1): nothing kept there", x.back(1), NOT);
         due("refused calls leave what can be undone", x.told(6), 5);
@@ -615,7 +519,7 @@ public final class PromiseTest {
     // ---- what can be looked at
 
     private static void writing() {
-        promise = 15;
+        about = "promise 15";
         CaseWheel x = told(THREE);
         due("writing(0) of none", x.writing(0), NONE);
         dueForAll("writing", x::writing, OUTSIDE, -1, LEAST);
@@ -634,7 +538,7 @@ public final class PromiseTest {
     }
 
     private static void sealOf() {
-        promise = 16;
+        about = "promise 16";
         CaseWheel x = new CaseWheel();
         due("seal of 1", sealOf(x, 1), "pomdbafj");
         due("seal of 2147483647", sealOf(x, MOST), "gckfanfi");
@@ -647,7 +551,7 @@ public final class PromiseTest {
     }
 
     private static void weight() {
-        promise = 17;
+        about = "promise 17";
         String[] rules = {"plain", "versed", "owing", "both"};
         // Debts are 3, -5, 2 behind one case; judges 0 and 2 are versed in a b and in c d e.
         int[][] due = {{3, 5, 2, 2}, {6, 5, 2, 4}, {6, 1, 4, 4}, {9, 1, 4, 6}};
@@ -669,7 +573,7 @@ public final class PromiseTest {
     }
 
     private static void odds() {
-        promise = 18;
+        about = "promise 18";
         CaseWheel x = told(THREE + ";bar 1 4;bar 0 6;bar 1 6");
         due("3 by 10, above", x.odds(0, 0, 0, 0), 3);
         due("3 by 10, below", x.odds(0, 0, 0, 1), 10);
@@ -699,7 +603,7 @@ public final class PromiseTest {
     }
 
     private static void next() {
-        promise = 19;
+        about = "promise 19";
         CaseWheel x = told(TWO + ";bar 0 3;bar 0 5;bar 1 5");
         dueForAll("next(_, 0)", s -> x.next(s, 0), OUTSIDE, -1, 5, LEAST, MOST);
         dueForAll("next(0, _)", p -> x.next(0, p), OUTSIDE, -1, 10, LEAST, MOST);
@@ -718,7 +622,7 @@ public final class PromiseTest {
     }
 
     private static void count() {
-        promise = 20;
+        about = "promise 20";
         CaseWheel x = told(THREE + ";rule both");
         due("count(1, 0) of none", x.count(1, 0), 0);
         due("count(1, 1) of none", x.count(1, 1), 0);
@@ -760,7 +664,7 @@ public final class PromiseTest {
     }
 
     private static void like() {
-        promise = 21;
+        about = "promise 21";
         CaseWheel x = told(THREE);
         dueForAll("like", x::like, OUTSIDE, 0, -1, 21, LEAST, MOST);
         due("like(1) of none", x.like(1), NONE);
@@ -794,7 +698,7 @@ public final class PromiseTest {
     // ---- slips
 
     private static void slip() {
-        promise = 22;
+        about = "promise 22";
         CaseWheel x = new CaseWheel();
         dueForAll("slip", x::slip, UNKNOWN, -1, 3, LEAST, MOST);
         dueForAll("slip", x::slip, 0, 0, 1, 2);
@@ -804,7 +708,7 @@ public final class PromiseTest {
     }
 
     private static void insert() {
-        promise = 23;
+        about = "promise 23";
         CaseWheel x = new CaseWheel();
         due("missing", x.insert(0, 0, 'a'), NULL);
         due("missing, place", x.insert(0, 5, 'a'), NULL);
@@ -830,7 +734,7 @@ public final class PromiseTest {
     }
 
     private static void cut() {
-        promise = 24;
+        about = "promise 24";
         CaseWheel x = new CaseWheel();
         due("missing", x.cut(1, 0, 0), NULL);
         due("missing, no span", x.cut(1, 2, 1), NULL);
@@ -855,7 +759,7 @@ public final class PromiseTest {
     }
 
     private static void join() {
-        promise = 25;
+        about = "promise 25";
         CaseWheel x = withSlip(withSlip(new CaseWheel(), 0, "ab1"), 1, ".c");
         due("join(0, 1)", x.join(0, 1), 5);
         due("slip 0", slipOf(x, 0), "ab1.c");
@@ -877,7 +781,7 @@ public final class PromiseTest {
     }
 
     private static void letter() {
-        promise = 26;
+        about = "promise 26";
         CaseWheel x = withSlip(new CaseWheel(), 2, "z.7");
         due("letter(2, 0)", x.letter(2, 0), 122);
         due("letter(2, 1)", x.letter(2, 1), 46);
@@ -888,7 +792,7 @@ public final class PromiseTest {
     }
 
     private static void find() {
-        promise = 27;
+        about = "promise 27";
         CaseWheel x = told("judge 1");
         assignAll(x, 12, 3);
         due("missing", x.find(0, 0), NULL);
@@ -922,7 +826,7 @@ public final class PromiseTest {
     }
 
     private static void value() {
-        promise = 28;
+        about = "promise 28";
         CaseWheel x = new CaseWheel();
         due("missing", x.value(0), NULL);
         dueForAll("value", x::value, UNKNOWN, -1, 3, LEAST, MOST);
@@ -934,7 +838,7 @@ public final class PromiseTest {
     }
 
     private static void named() {
-        promise = 29;
+        about = "promise 29";
         CaseWheel x = new CaseWheel();
         due("missing", x.named(1), NULL);
         dueForAll("named", x::named, UNKNOWN, -1, 3, LEAST, MOST);
@@ -946,7 +850,7 @@ public final class PromiseTest {
     }
 
     private static void drop() {
-        promise = 30;
+        about = "promise 30";
         CaseWheel x = withSlip(withSlip(new CaseWheel(), 0, "abc"), 1, "d");
         dueForAll("drop", x::drop, UNKNOWN, -1, 3, LEAST, MOST);
         due("drop(0)", x.drop(0), 3);
@@ -959,7 +863,7 @@ public final class PromiseTest {
     }
 
     private static void told() {
-        promise = 31;
+        about = "promise 31";
         CaseWheel x = told(THREE + ";away 2;rule owing");
         x.seal(MOST);
         assignAll(x, 11, 0);
