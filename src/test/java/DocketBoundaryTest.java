@@ -687,6 +687,7 @@ public final class DocketBoundaryTest extends Wheels {
             assignAll(x, 5, 3);
             x.refuse(0);
             x.seal(9);
+            for (int i = 0; i < 20; i++) x.assign(4, 9);
             due("back(1)", x.back(1), 4);
             due("as kept", look(x), kept);
         }

@@ -66,7 +66,7 @@ public final class SlipBoundaryTest extends Wheels {
         due("the slip", slipOf(x, 0), all);
     }
 
-    /** "NULL (the SLIP is missing)" */
+    /** "NULL -11 (the SLIP is missing)" */
     static void promise23_missingSlip() {
         CaseWheel x = new CaseWheel();
         dueRefusedForAll(x, "insert(_, 0, a)", s -> x.insert(s, 0, 'a'), NULL, 0, 1, 2);
@@ -111,6 +111,8 @@ public final class SlipBoundaryTest extends Wheels {
         due("INDEX ahead of ROOM", x.insert(0, -1, 'a'), INDEX);
         due("INDEX ahead of ROOM, behind", x.insert(0, 41, 'a'), INDEX);
         due("ROOM", x.insert(0, 40, 'a'), ROOM);
+        x.drop(0);
+        due("NULL ahead of ROOM, of one that was full", x.insert(0, 40, 'a'), NULL);
     }
 
     // ---- 24: cut
@@ -185,6 +187,9 @@ public final class SlipBoundaryTest extends Wheels {
         dueRefused(x, "itself", () -> x.join(1, 0), NULL);
         dueRefused(x, "both", () -> x.join(1, 2), NULL);
         dueRefused(x, "both, the same", () -> x.join(2, 2), NULL);
+        withSlip(x, 1, FORTY).drop(1);
+        dueRefused(x, "the other, that was full", () -> x.join(0, 1), NULL);
+        dueRefused(x, "itself, that was full", () -> x.join(1, 0), NULL);
     }
 
     /** "ROOM -13 (there would be more than 40)": 40 is not more, 41 is. */

@@ -239,7 +239,7 @@ public final class TextBoundaryTest extends Wheels {
         due("six of an earlier text", faultBehind(SIX, "wheel;" + SIX), NONE);
     }
 
-    /** "each of a STRENGTH (1 .. 9)": a number out of its bounds. */
+    /** "each of a STRENGTH (1 ..", "9)": a number out of its bounds. */
     static void promise04_strengthIs1To9() {
         for (int strength = 1; strength <= 9; strength++) due("strength", faultOf("judge " + strength), NONE);
         due("0", faultOf("judge 0"), 6);
@@ -361,8 +361,8 @@ public final class TextBoundaryTest extends Wheels {
 
     /** "each is one of: wheel. judge W. judge W L. bar J P. away J. rule N.": other words. */
     static void promise04_clausesBeginWithTheirWords() {
-        for (String word : new String[] {"whee", "wheels", "judg", "judges", "ba", "bars", "awa", "ways", "rul", "rules",
-            "plain", "a", "1", ".", ";", "Wheel", "WHEEL"}) {
+        for (String word : new String[] {"whee", "wheels", "judg", "judges", "ba", "bars", "awa", "aways", "rul",
+            "rules", "plain", "a", "1", ".", ";", "Wheel", "WHEEL"}) {
             due(word, faultOf(word), 0);
             due(word + ", second", faultOf("wheel;" + word), 6);
         }
@@ -513,6 +513,16 @@ public final class TextBoundaryTest extends Wheels {
         writeText(x, "wheel").wheel();
         due("of earlier texts", lookAll(x), lookAll(new CaseWheel()));
         due("the next judge 0", look(told(all + ";judge 1")), look(told("judge 1")));
+    }
+
+    /** "too, if so already": told twice, in one text or in two, it is so still; the same with bar. */
+    static void promise05_awayAndBarredIfSoAlready() {
+        CaseWheel x = told("judge 1;away 0;bar 0 3;away 0;bar 0 3");
+        due("away", x.told(5), 1);
+        due("barred", x.judge(0, 2), 8);
+        writeText(x, "bar 0 3;away 0").wheel();
+        due("away, by a later text", x.told(5), 1);
+        due("barred, by a later text", x.judge(0, 2), 8);
     }
 
     /** "what earlier texts told stays as it was told" */
