@@ -5,6 +5,8 @@ import java.lang.reflect.Method;
 import java.lang.reflect.Modifier;
 import java.nio.file.Files;
 import java.nio.file.Path;
+import java.util.ArrayList;
+import java.util.List;
 import java.util.Map;
 import java.util.Set;
 import java.util.TreeMap;
@@ -19,7 +21,9 @@ public final class FaceTest {
     public static void main(String[] args) throws Exception {
         face();
         constants();
+        sizes();
         source(Files.readString(Path.of(SOURCE)));
+        lengthsOfMethods(Files.readAllLines(Path.of(SOURCE)));
         System.out.println(wrong == 0 ? "the face and the source are as told" : wrong + " faults");
         if (wrong != 0) System.exit(1);
     }
@@ -80,6 +84,35 @@ public final class FaceTest {
         due("constants", found, new TreeSet<>(values.keySet()));
         for (Class<?> inside : CaseWheel.class.getDeclaredClasses()) {
             due(inside + " is static", Modifier.isStatic(inside.getModifiers()), true);
+        }
+    }
+
+    /** Rule 11, but for the lengths of methods. */
+    private static void sizes() {
+        List<Class<?>> all = new ArrayList<>(List.of(CaseWheel.class.getDeclaredClasses()));
+        all.add(CaseWheel.class);
+        due("at most 12 classes", all.size() <= 12, true);
+        for (Class<?> one : all) {
+            int fields = 0;
+            for (Field f : one.getDeclaredFields()) fields += Modifier.isStatic(f.getModifiers()) ? 0 : 1;
+            due("at most 20 fields in " + one, fields <= 20, true);
+            for (Method m : one.getDeclaredMethods()) {
+                due("at most 7 parameters of " + m.getName(), m.getParameterCount() <= 7, true);
+            }
+        }
+    }
+
+    /** Rule 11: a method begins and ends at the same indent, in the class itself or in one inside it. */
+    private static void lengthsOfMethods(List<String> lines) {
+        int begin = -1;
+        for (int i = 0; i < lines.size(); i++) {
+            String line = lines.get(i);
+            if (line.matches("( {4}| {8})\\w[^=;]*\\) \\{") && !line.matches(" +(if|for|while|switch) .*")) {
+                begin = i;
+            } else if (begin >= 0 && line.equals(lines.get(begin).replaceAll("\\S.*", "}"))) {
+                due("at most 60 lines: " + lines.get(begin).trim(), i - begin + 1 <= 60, true);
+                begin = -1;
+            }
         }
     }
 
